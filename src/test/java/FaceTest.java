@@ -1,0 +1,66 @@
+import java.io.IOException;
+import java.lang.reflect.Constructor;
+import java.lang.reflect.Field;
+import java.lang.reflect.Method;
+import java.lang.reflect.Modifier;
+import java.nio.file.Files;
+import java.nio.file.Path;
+import java.util.Set;
+import java.util.TreeSet;
+
+/** The public face of the document, all of it and nothing more; and words that LANGUAGE.md leaves out. */
+public final class FaceTest {
+    private static final Set<String> FACE = Set.of(
+        "int segment(int,int)", "boolean brackets(int,int,int,int,int)", "boolean flags(int,int,int)",
+        "boolean word(int,int,int)", "boolean define(int,int,int)", "boolean link(int,int,int,int)",
+        "boolean start(int,int,int,int)", "int handler(int,int,int)", "int run(int,int)", "int state(int,int)",
+        "int pointer(int,int,int)", "int peek(int,int,int)", "int stored(int,int)", "int known(int,int)",
+        "int may(int,int,int,int)", "int said(int)", "int sayings()");
+    private static final String[] REFUSED = {"throw", "try", "catch", "synchronized", "assert", "->", "::", "static {",
+        "Exception", "System.out", "Exact("};
+
+    public static void main(String[] args) throws IOException {
+        members();
+        source();
+        Check.finish();
+    }
+
+    private static void members() {
+        Set<String> found = new TreeSet<>();
+        for (Method method : RingWarden.class.getDeclaredMethods()) {
+            if (!Modifier.isPrivate(method.getModifiers()) && !method.isSynthetic()) {
+                found.add(signature(method));
+            }
+        }
+        Check.due("methods " + found, found.equals(FACE), true);
+        for (Field field : RingWarden.class.getDeclaredFields()) {
+            boolean shown = !Modifier.isPrivate(field.getModifiers());
+            Check.due("field " + field.getName(), shown, field.getName().equals("NONE"));
+        }
+        Constructor<?>[] constructors = RingWarden.class.getDeclaredConstructors();
+        Check.due("constructors", constructors.length, 1);
+        Check.due("its parameters", constructors[0].getParameterCount(), 0);
+        Check.due("final", Modifier.isFinal(RingWarden.class.getModifiers()), true);
+        for (Class<?> inside : RingWarden.class.getDeclaredClasses()) {
+            Check.due("static " + inside.getName(), Modifier.isStatic(inside.getModifiers()), true);
+        }
+    }
+
+    private static String signature(Method method) {
+        StringBuilder text = new StringBuilder(method.getReturnType() + " " + method.getName() + "(");
+        for (int i = 0; i < method.getParameterCount(); i++) {
+            text.append(i == 0 ? "" : ",").append(method.getParameterTypes()[i]);
+        }
+        return text.append(")").toString();
+    }
+
+    private static void source() throws IOException {
+        String text = Files.readString(Path.of("src/main/java/RingWarden.java"));
+        String code = text.replaceAll("(?s)/\\*.*?\\*/", "").replaceAll("//[^\n]*", "");
+        for (String word : REFUSED) {
+            boolean plain = Character.isLetter(word.charAt(0)) && Character.isLetter(word.charAt(word.length() - 1));
+            String pattern = "(?s).*" + (plain ? "\\b" + word + "\\b" : java.util.regex.Pattern.quote(word)) + ".*";
+            Check.due("'" + word + "' in the source", code.matches(pattern), false);
+        }
+    }
+}
