@@ -58,8 +58,6 @@ public final class AddressTest {
         b.does(3, Orders.of(1, Orders.indirect(Orders.own(Orders.POINT, 50))),
             Orders.of(2, Orders.byPointer(Orders.POINT, 1, 5)));
         Check.dueAll("mode 1 in the pointer's ring", b.pointer(2), 6, 8, 25);
-        // A pointer of a ring below the place's is left by a CALL inwards and a GO out of there only by RETURN,
-        // which raises it; so the handler's registers show it: P1 of a fault in ring 0 is used in ring 0.
         b.does(3, Orders.of(1, Orders.indirect(Orders.own(Orders.POINT, 51))));
         Check.dueAll("a pointer word's ring is raised to the place's", b.pointer(1), 3, 8, 20);
     }

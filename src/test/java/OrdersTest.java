@@ -35,6 +35,9 @@ public final class OrdersTest {
         Bench b = new Bench().brackets(3, 7, 7, 0);
         b.does(3, Orders.immediate(Orders.LOAD, 77), Orders.own(Orders.STORE, 99));
         Check.due("2 STORE", b.x.stored(0, 99), 77);
+        b.does(4, Orders.immediate(Orders.LOAD, 78), Orders.own(Orders.STORE, 99));
+        Check.dueAll("2 STORE may not write", b.fault(), 4, 4, 8, 99);
+        Check.due("2 STORE wrote nothing", b.x.stored(0, 99), 77);
     }
 
     private static void compare() {
@@ -122,9 +125,10 @@ public final class OrdersTest {
         Check.dueAll("18 word below 0", b.fault(), 2, 3, 8, -1);
         Check.dueAll("18 below 0, the pointer stays", b.pointer(2), 3, 0, 0);
         b.put(50, 65535, 65536);
-        b.does(3, Orders.of(1, Orders.own(Orders.LOAD_X, 50)), Orders.indexed(Orders.of(2, Orders.own(Orders.POINT, 0)), 1));
+        int point = Orders.indexed(Orders.of(2, Orders.own(Orders.POINT, 0)), 1);
+        b.does(3, Orders.of(1, Orders.own(Orders.LOAD_X, 50)), point);
         Check.dueAll("18 word 65535", b.pointer(2), 3, 8, 65535);
-        b.does(3, Orders.of(1, Orders.own(Orders.LOAD_X, 51)), Orders.indexed(Orders.of(2, Orders.own(Orders.POINT, 0)), 1));
+        b.does(3, Orders.of(1, Orders.own(Orders.LOAD_X, 51)), point);
         Check.dueAll("18 word 65536", b.fault(), 2, 3, 8, 65536);
         b.brackets(2, 5, 5, 0);
         b.does(3, Orders.of(1, Orders.own(Orders.KEEP, 60)));

@@ -5,6 +5,7 @@ public final class ProcessTest {
     public static void main(String[] args) {
         start();
         startAnew();
+        stacksAnew();
         startRefused();
         handler();
         run();
@@ -71,6 +72,22 @@ public final class ProcessTest {
         b.x.link(0, 0, 999, 1);
         b.does(4, Orders.byLink(Orders.LOAD, 0));
         Check.due("8 anew, nothing linked", b.is(Bench.KIND), 12);
+    }
+
+    private static void stacksAnew() {
+        Bench b = new Bench();
+        for (int ring = 0; ring < 8; ring++) {
+            b.put(2 + ring, Orders.indirect(Orders.own(Orders.STORE, 50 + ring)));
+            b.put(50 + ring, Orders.pointerWord(0, ring, 63));
+        }
+        b.put(0, Orders.immediate(Orders.LOAD, 6), Orders.own(Orders.GO, 2)).start(0).run(10);
+        for (int ring = 0; ring < 8; ring++) {
+            Check.due("13 stack " + ring, b.x.peek(0, ring, 63), 6);
+        }
+        b.start(0);
+        for (int ring = 0; ring < 8; ring++) {
+            Check.due("8 anew, stack " + ring, b.x.peek(0, ring, 63), 0);
+        }
     }
 
     private static void startRefused() {

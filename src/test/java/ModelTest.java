@@ -1,0 +1,199 @@
+import java.util.Arrays;
+import java.util.Random;
+
+/** Holds RingWarden against the Model in runs of made-up calls: promises 1 to 18, right and wrong inputs mixed. */
+public final class ModelTest {
+    private static final int RUNS = 3000;
+    private static final int CALLS = 512;
+    private static final int CODE = 14;
+    private static final int[] EDGES = {Integer.MIN_VALUE, -65536, -2, -1, 0, 1, 2, 3, 4, 7, 8, 9, 15, 16, 31, 32,
+        63, 64, 199, 200, 255, 256, 257, 500, 501, 65535, 65536, Integer.MAX_VALUE};
+
+    private static final long[] KINDS = new long[15];
+    private static long calls = 0;
+    private static long returns = 0;
+
+    private final Random random;
+    private final RingWarden x = new RingWarden();
+    private final Model m = new Model();
+
+    private ModelTest(long seed) {
+        random = new Random(seed);
+    }
+
+    public static void main(String[] args) {
+        for (int seed = 0; seed < RUNS; seed++) {
+            ModelTest test = new ModelTest(seed);
+            test.build();
+            for (int i = 0; i < CALLS; i++) {
+                test.call(seed);
+            }
+            test.compareAll(seed);
+        }
+        System.out.println("faults met, by kind: " + Arrays.toString(KINDS)
+            + "; calls " + calls + ", returns " + returns);
+        for (int kind = 0; kind < KINDS.length; kind++) {
+            Check.due("kind " + kind + " was met", KINDS[kind] > 0, true);
+        }
+        Check.finish();
+    }
+
+    private int upTo(int n) {
+        return random.nextInt(n + 1);
+    }
+
+    /** Mostly from the range that is allowed, now and then from anywhere. */
+    private int some(int from, int to) {
+        if (random.nextInt(40) == 0) {
+            return EDGES[random.nextInt(EDGES.length)];
+        }
+        return from + random.nextInt(to - from + 1);
+    }
+
+    private void build() {
+        int count = 2 + upTo(5);
+        for (int s = 0; s < count; s++) {
+            int words = 22 + upTo(8);
+            Check.due("segment", x.segment(s, words), m.segment(s, words));
+            setBrackets(s);
+            for (int user = 0; user < 4; user++) {
+                int flags = random.nextInt(4) == 0 ? upTo(7) : 7;
+                x.flags(s, user, flags);
+                m.flags(s, user, flags);
+            }
+            for (int k = 0; k < 3; k++) {
+                x.define(s, k, 2 * k);
+                m.define(s, k, 2 * k);
+            }
+            for (int k = 0; k < words; k++) {
+                setWord("build: ", s, k);
+            }
+            for (int k = 0; k < 8; k++) {
+                int name = upTo(count);
+                int symbol = upTo(3);
+                x.link(s, k, name, symbol);
+                m.link(s, k, name, symbol);
+            }
+        }
+    }
+
+    /** Half of the segments can hold a handler. */
+    private void setBrackets(int s) {
+        int r1 = random.nextInt(2) == 0 ? 0 : upTo(5);
+        int r2 = Math.min(7, r1 + upTo(5));
+        int r3 = Math.min(7, r2 + upTo(3));
+        int gates = upTo(20);
+        Check.due("brackets", x.brackets(s, r1, r2, r3, gates), m.brackets(s, r1, r2, r3, gates));
+    }
+
+    /** Orders in front, pointer words and numbers behind, so that the orders have something to point by. */
+    private int someWord(int k) {
+        if (random.nextInt(20) == 0) {
+            return random.nextInt();
+        }
+        return k < CODE == (random.nextInt(10) != 0) ? someOrder() : somePointerWord();
+    }
+
+    private int somePointerWord() {
+        boolean again = random.nextInt(2) == 0;
+        int ring = random.nextInt(2) == 0 ? upTo(7) : 0;
+        int number = random.nextInt(3) == 0 ? upTo(14) : 8;
+        int word = again ? CODE + upTo(7) : upTo(24);
+        return (again ? 1 << 31 : 0) | ring << 28 | number << 16 | word;
+    }
+
+    private int someOrder() {
+        switch (random.nextInt(10)) {
+            case 0: return Orders.byLink(Orders.CALL, upTo(7));
+            case 1: return Orders.own(Orders.RETURN, CODE + upTo(7));
+            case 2: return Orders.of(1, Orders.immediate(Orders.LOAD_X, upTo(3)));
+            default: return anyOrder();
+        }
+    }
+
+    private int anyOrder() {
+        int op = random.nextInt(30) == 0 ? upTo(31) : 1 + upTo(24);
+        int indirect = random.nextInt(4) == 0 ? 1 << 26 : 0;
+        int x = random.nextInt(4) == 0 ? upTo(3) << 19 : 0;
+        int mode = upTo(3);
+        if (mode == 3 && random.nextInt(4) != 0) {
+            indirect = 0;
+        }
+        int r = random.nextInt(4) == 0 ? upTo(7) : 1 + upTo(2);
+        int offset = random.nextInt(12) == 0 ? random.nextInt() & 65535 : mode == 2 ? upTo(9)
+            : indirect != 0 || op == 21 ? CODE + upTo(8) : upTo(24);
+        return op << 27 | indirect | mode << 24 | upTo(7) << 21 | x | r << 16 | offset;
+    }
+
+    private void call(int seed) {
+        String at = "run " + seed + ": ";
+        int p = some(0, 3);
+        int s = some(0, 6);
+        int a = some(0, 24);
+        int b = some(0, 7);
+        int c = some(0, 7);
+        switch (random.nextInt(24)) {
+            case 0: Check.due(at + "segment", x.segment(a, b), m.segment(a, b)); break;
+            case 1:
+                Check.due(at + "brackets", x.brackets(s, b / 2, c, p + 4, a), m.brackets(s, b / 2, c, p + 4, a));
+                break;
+            case 2: Check.due(at + "flags", x.flags(s, p, b | c), m.flags(s, p, b | c)); break;
+            case 3: case 4: setWord(at, s, a); break;
+            case 5: Check.due(at + "define", x.define(s, b, a), m.define(s, b, a)); break;
+            case 6: Check.due(at + "link", x.link(s, b, c, a / 8), m.link(s, b, c, a / 8)); break;
+            case 7: case 8: case 9: startSome(at, p, s, a, b); break;
+            case 10: case 11: Check.due(at + "handler", x.handler(p, s, a), m.handler(p, s, a)); break;
+            case 12: case 13: case 14: case 15: runSome(at, p); break;
+            case 16: Check.due(at + "pointer", x.pointer(p, b, c), m.pointer(p, b, c)); break;
+            case 17: Check.due(at + "peek", x.peek(p, c, a), m.peek(p, c, a)); break;
+            case 18: Check.due(at + "stored", x.stored(s, a), m.stored(s, a)); break;
+            case 19: Check.due(at + "known", x.known(p, a), m.known(p, a)); break;
+            case 20: Check.due(at + "may", x.may(p, b, a, c / 2), m.may(p, b, a, c / 2)); break;
+            case 21: Check.due(at + "said", x.said(a), m.said(a)); break;
+            case 22: Check.due(at + "sayings", x.sayings(), m.sayings()); break;
+            default: Check.due(at + "state " + a, x.state(p, a), m.state(p, a)); break;
+        }
+    }
+
+    private void setWord(String at, int s, int k) {
+        int w = someWord(k);
+        Check.due(at + "word", x.word(s, k, w), m.word(s, k, w));
+    }
+
+    /** Mostly in a ring that may execute there. */
+    private void startSome(String at, int p, int s, int k, int anyRing) {
+        boolean there = s >= 0 && s < m.segments.size();
+        int ring = there && random.nextInt(8) != 0 ? m.segments.get(s).r[random.nextInt(2)] : anyRing;
+        int word = random.nextInt(8) == 0 ? k : upTo(CODE);
+        Check.due(at + "start", x.start(p, s, word, ring), m.start(p, s, word, ring));
+    }
+
+    private void runSome(String at, int p) {
+        int n = some(0, 12);
+        Check.due(at + "run", x.run(p, n), m.run(p, n));
+        for (int what = -1; what < 20; what++) {
+            Check.due(at + "state " + what, x.state(p, what), m.state(p, what));
+        }
+        for (int i = 0; i < 24; i++) {
+            Check.due(at + "pointer " + i, x.pointer(p, i / 3, i % 3), m.pointer(p, i / 3, i % 3));
+        }
+        KINDS[m.state(p, 9)]++;
+        calls += m.state(p, 17);
+        returns += m.state(p, 18);
+    }
+
+    private void compareAll(int seed) {
+        String at = "run " + seed + ", at its end: ";
+        for (int p = 0; p < 4; p++) {
+            for (int number = 0; number < 41; number++) {
+                Check.due(at + "known", x.known(p, number), m.known(p, number));
+                for (int k = 0; k < 65; k++) {
+                    Check.due(at + "peek", x.peek(p, number, k), m.peek(p, number, k));
+                }
+            }
+        }
+        for (int i = 0; i < 201; i++) {
+            Check.due(at + "said", x.said(i), m.said(i));
+        }
+    }
+}
