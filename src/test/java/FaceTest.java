@@ -16,7 +16,7 @@ public final class FaceTest {
         "boolean start(int,int,int,int)", "int handler(int,int,int)", "int run(int,int)", "int state(int,int)",
         "int pointer(int,int,int)", "int peek(int,int,int)", "int stored(int,int)", "int known(int,int)",
         "int may(int,int,int,int)", "int said(int)", "int sayings()");
-    private static final String[] REFUSED = {"throw", "try", "catch", "synchronized", "assert", "->", "::", "static {",
+    private static final String[] REFUSED = {"throw", "try", "catch", "synchronized", "assert", "::", "static {",
         "Exception", "System.out", "Exact("};
 
     public static void main(String[] args) throws IOException {

@@ -3,8 +3,8 @@ import java.util.Random;
 
 /** Holds RingWarden against the Model in runs of made-up calls: promises 1 to 18, right and wrong inputs mixed. */
 public final class ModelTest {
-    private static final int RUNS = 3000;
-    private static final int CALLS = 512;
+    private static final int RUNS = 20000;
+    private static final int CALLS_KEPT_FOR_THE_END = 60;
     private static final int CODE = 14;
     private static final int[] EDGES = {Integer.MIN_VALUE, -65536, -2, -1, 0, 1, 2, 3, 4, 7, 8, 9, 15, 16, 31, 32,
         63, 64, 199, 200, 255, 256, 257, 500, 501, 65535, 65536, Integer.MAX_VALUE};
@@ -12,26 +12,33 @@ public final class ModelTest {
     private static final long[] KINDS = new long[15];
     private static long calls = 0;
     private static long returns = 0;
+    private static int mostKnown = 0;
 
+    private final String at;
     private final Random random;
-    private final RingWarden x = new RingWarden();
+    private final Counted x = new Counted();
     private final Model m = new Model();
 
     private ModelTest(long seed) {
+        at = "run " + seed + ": ";
         random = new Random(seed);
     }
 
     public static void main(String[] args) {
         for (int seed = 0; seed < RUNS; seed++) {
             ModelTest test = new ModelTest(seed);
-            test.build();
-            for (int i = 0; i < CALLS; i++) {
-                test.call(seed);
+            if (seed % 16 == 0) {
+                test.buildMany();
+            } else {
+                test.buildFew();
             }
-            test.compareAll(seed);
+            while (test.x.callsLeft() > CALLS_KEPT_FOR_THE_END) {
+                test.call();
+            }
+            test.compareSome();
         }
-        System.out.println("faults met, by kind: " + Arrays.toString(KINDS)
-            + "; calls " + calls + ", returns " + returns);
+        System.out.println("faults met, by kind: " + Arrays.toString(KINDS) + "; calls " + calls + ", returns "
+            + returns + ", most known " + mostKnown);
         for (int kind = 0; kind < KINDS.length; kind++) {
             Check.due("kind " + kind + " was met", KINDS[kind] > 0, true);
         }
@@ -50,40 +57,77 @@ public final class ModelTest {
         return from + random.nextInt(to - from + 1);
     }
 
-    private void build() {
-        int count = 2 + upTo(5);
+    /** Two to four segments with much in them. */
+    private void buildFew() {
+        int count = 2 + upTo(2);
         for (int s = 0; s < count; s++) {
-            int words = 22 + upTo(8);
-            Check.due("segment", x.segment(s, words), m.segment(s, words));
-            setBrackets(s);
+            setSegment(s, 22 + upTo(8));
+            setSomeBrackets(s);
             for (int user = 0; user < 4; user++) {
-                int flags = random.nextInt(4) == 0 ? upTo(7) : 7;
-                x.flags(s, user, flags);
-                m.flags(s, user, flags);
+                setFlags(s, user, random.nextInt(4) == 0 ? upTo(7) : 7);
             }
             for (int k = 0; k < 3; k++) {
-                x.define(s, k, 2 * k);
-                m.define(s, k, 2 * k);
+                setDefinition(s, k, 2 * k);
             }
-            for (int k = 0; k < words; k++) {
-                setWord("build: ", s, k);
+            for (int k = 0; k < 22; k++) {
+                setWord(s, k, someWord(k));
             }
             for (int k = 0; k < 8; k++) {
-                int name = upTo(count);
-                int symbol = upTo(3);
-                x.link(s, k, name, symbol);
-                m.link(s, k, name, symbol);
+                setLink(s, k, upTo(count), upTo(3));
             }
         }
     }
 
+    /** All the segments that there can be, each with an order that goes on to another one by a link. */
+    private void buildMany() {
+        int user = upTo(3);
+        int[] words = new int[32];
+        for (int s = 0; s < 32; s++) {
+            words[s] = 1 + upTo(255);
+            setSegment(-s, words[s]);
+            setBrackets(s, 0, 7, 7, words[s]);
+            setFlags(s, user, 7);
+            setDefinition(s, 3 * s, words[s] / 2);
+            int k = upTo(15);
+            int next = (s + 1 + upTo(1)) % 32;
+            setLink(s, k, -next, 3 * next);
+            setWord(s, words[s] / 2, Orders.byLink(random.nextInt(3) == 0 ? Orders.CALL : Orders.GO, k));
+        }
+        start(user, 0, words[0] / 2, upTo(7));
+        for (int i = 0; i < 4; i++) {
+            run(user, upTo(30));
+        }
+    }
+
+    private void setSegment(int name, int words) {
+        Check.due(at + "segment", x.segment(name, words), m.segment(name, words));
+    }
+
+    private void setBrackets(int s, int r1, int r2, int r3, int gates) {
+        Check.due(at + "brackets", x.brackets(s, r1, r2, r3, gates), m.brackets(s, r1, r2, r3, gates));
+    }
+
     /** Half of the segments can hold a handler. */
-    private void setBrackets(int s) {
+    private void setSomeBrackets(int s) {
         int r1 = random.nextInt(2) == 0 ? 0 : upTo(5);
         int r2 = Math.min(7, r1 + upTo(5));
-        int r3 = Math.min(7, r2 + upTo(3));
-        int gates = upTo(20);
-        Check.due("brackets", x.brackets(s, r1, r2, r3, gates), m.brackets(s, r1, r2, r3, gates));
+        setBrackets(s, r1, r2, Math.min(7, r2 + upTo(3)), upTo(20));
+    }
+
+    private void setFlags(int s, int user, int flags) {
+        Check.due(at + "flags", x.flags(s, user, flags), m.flags(s, user, flags));
+    }
+
+    private void setWord(int s, int k, int w) {
+        Check.due(at + "word", x.word(s, k, w), m.word(s, k, w));
+    }
+
+    private void setDefinition(int s, int symbol, int k) {
+        Check.due(at + "define", x.define(s, symbol, k), m.define(s, symbol, k));
+    }
+
+    private void setLink(int s, int k, int name, int symbol) {
+        Check.due(at + "link", x.link(s, k, name, symbol), m.link(s, k, name, symbol));
     }
 
     /** Orders in front, pointer words and numbers behind, so that the orders have something to point by. */
@@ -114,7 +158,7 @@ public final class ModelTest {
     private int anyOrder() {
         int op = random.nextInt(30) == 0 ? upTo(31) : 1 + upTo(24);
         int indirect = random.nextInt(4) == 0 ? 1 << 26 : 0;
-        int x = random.nextInt(4) == 0 ? upTo(3) << 19 : 0;
+        int index = random.nextInt(4) == 0 ? upTo(3) << 19 : 0;
         int mode = upTo(3);
         if (mode == 3 && random.nextInt(4) != 0) {
             indirect = 0;
@@ -122,28 +166,25 @@ public final class ModelTest {
         int r = random.nextInt(4) == 0 ? upTo(7) : 1 + upTo(2);
         int offset = random.nextInt(12) == 0 ? random.nextInt() & 65535 : mode == 2 ? upTo(9)
             : indirect != 0 || op == 21 ? CODE + upTo(8) : upTo(24);
-        return op << 27 | indirect | mode << 24 | upTo(7) << 21 | x | r << 16 | offset;
+        return op << 27 | indirect | mode << 24 | upTo(7) << 21 | index | r << 16 | offset;
     }
 
-    private void call(int seed) {
-        String at = "run " + seed + ": ";
+    private void call() {
         int p = some(0, 3);
-        int s = some(0, 6);
+        int s = some(0, 4);
         int a = some(0, 24);
         int b = some(0, 7);
         int c = some(0, 7);
         switch (random.nextInt(24)) {
-            case 0: Check.due(at + "segment", x.segment(a, b), m.segment(a, b)); break;
-            case 1:
-                Check.due(at + "brackets", x.brackets(s, b / 2, c, p + 4, a), m.brackets(s, b / 2, c, p + 4, a));
-                break;
-            case 2: Check.due(at + "flags", x.flags(s, p, b | c), m.flags(s, p, b | c)); break;
-            case 3: case 4: setWord(at, s, a); break;
-            case 5: Check.due(at + "define", x.define(s, b, a), m.define(s, b, a)); break;
-            case 6: Check.due(at + "link", x.link(s, b, c, a / 8), m.link(s, b, c, a / 8)); break;
-            case 7: case 8: case 9: startSome(at, p, s, a, b); break;
+            case 0: setSegment(a, b); break;
+            case 1: setBrackets(s, b / 2, c, p + 4, a); break;
+            case 2: setFlags(s, p, b | c); break;
+            case 3: case 4: setWord(s, a, someWord(a)); break;
+            case 5: setDefinition(s, b, a); break;
+            case 6: setLink(s, b, c, a / 8); break;
+            case 7: case 8: case 9: startSome(p, s, a, b); break;
             case 10: case 11: Check.due(at + "handler", x.handler(p, s, a), m.handler(p, s, a)); break;
-            case 12: case 13: case 14: case 15: runSome(at, p); break;
+            case 12: case 13: case 14: case 15: run(p, some(0, 12)); break;
             case 16: Check.due(at + "pointer", x.pointer(p, b, c), m.pointer(p, b, c)); break;
             case 17: Check.due(at + "peek", x.peek(p, c, a), m.peek(p, c, a)); break;
             case 18: Check.due(at + "stored", x.stored(s, a), m.stored(s, a)); break;
@@ -155,45 +196,41 @@ public final class ModelTest {
         }
     }
 
-    private void setWord(String at, int s, int k) {
-        int w = someWord(k);
-        Check.due(at + "word", x.word(s, k, w), m.word(s, k, w));
-    }
-
     /** Mostly in a ring that may execute there. */
-    private void startSome(String at, int p, int s, int k, int anyRing) {
+    private void startSome(int p, int s, int k, int anyRing) {
         boolean there = s >= 0 && s < m.segments.size();
         int ring = there && random.nextInt(8) != 0 ? m.segments.get(s).r[random.nextInt(2)] : anyRing;
-        int word = random.nextInt(8) == 0 ? k : upTo(CODE);
-        Check.due(at + "start", x.start(p, s, word, ring), m.start(p, s, word, ring));
+        start(p, s, random.nextInt(8) == 0 ? k : upTo(CODE), ring);
     }
 
-    private void runSome(String at, int p) {
-        int n = some(0, 12);
+    private void start(int p, int s, int k, int ring) {
+        Check.due(at + "start", x.start(p, s, k, ring), m.start(p, s, k, ring));
+    }
+
+    private void run(int p, int n) {
         Check.due(at + "run", x.run(p, n), m.run(p, n));
-        for (int what = -1; what < 20; what++) {
+        for (int what = 0; what < 19; what++) {
             Check.due(at + "state " + what, x.state(p, what), m.state(p, what));
         }
-        for (int i = 0; i < 24; i++) {
+        for (int i = upTo(3); i < 24; i += 4) {
             Check.due(at + "pointer " + i, x.pointer(p, i / 3, i % 3), m.pointer(p, i / 3, i % 3));
         }
         KINDS[m.state(p, 9)]++;
         calls += m.state(p, 17);
         returns += m.state(p, 18);
+        mostKnown = Math.max(mostKnown, m.state(p, 16));
     }
 
-    private void compareAll(int seed) {
-        String at = "run " + seed + ", at its end: ";
-        for (int p = 0; p < 4; p++) {
-            for (int number = 0; number < 41; number++) {
-                Check.due(at + "known", x.known(p, number), m.known(p, number));
-                for (int k = 0; k < 65; k++) {
-                    Check.due(at + "peek", x.peek(p, number, k), m.peek(p, number, k));
-                }
-            }
+    private void compareSome() {
+        int ofStack = upTo(7);
+        while (x.callsLeft() > 3) {
+            int p = upTo(3);
+            int number = random.nextInt(4) == 0 ? ofStack : upTo(14);
+            int k = number < 8 ? upTo(24) : upTo(30);
+            Check.due(at + "known", x.known(p, number), m.known(p, number));
+            Check.due(at + "peek", x.peek(p, number, k), m.peek(p, number, k));
+            Check.due(at + "said", x.said(k), m.said(k));
         }
-        for (int i = 0; i < 201; i++) {
-            Check.due(at + "said", x.said(i), m.said(i));
-        }
+        Check.due(at + "sayings", x.sayings(), m.sayings());
     }
 }

@@ -14,7 +14,7 @@ public final class SegmentsTest {
     }
 
     private static void newObject() {
-        RingWarden x = new RingWarden();
+        Counted x = new Counted();
         Check.due("1 stored", x.stored(0, 0), 0);
         Check.due("1 word", x.word(0, 0, 1), false);
         Check.due("1 start", x.start(0, 0, 0, 0), false);
@@ -35,7 +35,7 @@ public final class SegmentsTest {
     }
 
     private static void segments() {
-        RingWarden x = new RingWarden();
+        Counted x = new Counted();
         Check.due("2 no words", x.segment(5, 0), NONE);
         Check.due("2 words below 0", x.segment(5, -1), NONE);
         Check.due("2 least words", x.segment(5, Integer.MIN_VALUE), NONE);
@@ -56,7 +56,7 @@ public final class SegmentsTest {
         Check.due("2 behind the last", x.word(32, 0, 7), false);
     }
 
-    private static int[] rights(RingWarden x, int number) {
+    private static int[] rights(Counted x, int number) {
         int[] rights = new int[3];
         for (int how = 0; how < 3; how++) {
             for (int ring = 0; ring < 8; ring++) {
@@ -67,7 +67,7 @@ public final class SegmentsTest {
     }
 
     private static void brackets() {
-        RingWarden x = new RingWarden();
+        Counted x = new Counted();
         x.segment(1, 10);
         x.flags(0, 0, 7);
         x.start(0, 0, 0, 0);
@@ -89,7 +89,7 @@ public final class SegmentsTest {
     }
 
     private static void flags() {
-        RingWarden x = new RingWarden();
+        Counted x = new Counted();
         x.segment(1, 10);
         x.start(0, 0, 0, 0);
         x.start(3, 0, 0, 0);
@@ -112,7 +112,7 @@ public final class SegmentsTest {
     }
 
     private static void words() {
-        RingWarden x = new RingWarden();
+        Counted x = new Counted();
         x.segment(1, 3);
         Check.due("5 0 at first", x.stored(0, 2), 0);
         Check.due("5 word", x.word(0, 2, Integer.MIN_VALUE), true);
@@ -157,7 +157,7 @@ public final class SegmentsTest {
     }
 
     private static void links() {
-        RingWarden x = new RingWarden();
+        Counted x = new Counted();
         x.segment(1, 3);
         Check.due("7 first", x.link(0, 0, Integer.MIN_VALUE, Integer.MAX_VALUE), true);
         Check.due("7 last", x.link(0, 15, 0, 0), true);
