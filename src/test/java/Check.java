@@ -1,5 +1,7 @@
 /** Compares answers with what is due, and tells at the end of a test by the exit code whether all were. */
 final class Check {
+    private static final int MOST_TOLD = 40;
+
     private static int asked = 0;
     private static int wrong = 0;
 
@@ -10,7 +12,9 @@ final class Check {
         asked++;
         if (got != want) {
             wrong++;
-            System.out.println(call + " answered " + got + ", due is " + want);
+            if (wrong <= MOST_TOLD) {
+                System.out.println(call + " answered " + got + ", due is " + want);
+            }
         }
     }
 

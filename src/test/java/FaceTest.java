@@ -62,5 +62,9 @@ public final class FaceTest {
             String pattern = "(?s).*" + (plain ? "\\b" + word + "\\b" : java.util.regex.Pattern.quote(word)) + ".*";
             Check.due("'" + word + "' in the source", code.matches(pattern), false);
         }
+        for (String line : code.split("\n")) {
+            boolean arm = line.strip().startsWith("case ") || line.strip().startsWith("default ");
+            Check.due("a lambda in the source: " + line.strip(), line.contains("->") && !arm, false);
+        }
     }
 }

@@ -15,6 +15,7 @@ public final class OpBoundsTest {
         haltSayResumeHaveNoAddress();
         halt();
         store();
+        withTheOperand();
         compare();
         goWhere();
         goMustBeExecuted();
@@ -178,6 +179,35 @@ public final class OpBoundsTest {
         b.does(0, Orders.immediate(Orders.LOAD, 55), Orders.own(Orders.STORE, 99), Orders.own(Orders.STORE, 100));
         Check.due("the last word", b.x.stored(0, 99), 55);
         Check.dueAll("behind the last word", b.fault(), 2, 0, 8, 100);
+    }
+
+    // "1 LOAD: A is the OPERAND. .. 3 ADD, 4 SUB, 5 MUL, 6 AND, 7 OR, 8 XOR: A with the OPERAND."
+    private static void withTheOperand() {
+        int[] values = {MIN, -65536, -6, -1, 0, 1, 5, 65535, 65536, MAX};
+        for (int a : values) {
+            for (int v : values) {
+                int[] due = {v, 0, a + v, a - v, a * v, a & v, a | v, a ^ v};
+                Bench b = new Bench().put(50, a, v);
+                for (int op : new int[] {1, 3, 4, 5, 6, 7, 8}) {
+                    b.does(3, Orders.own(Orders.LOAD, 50), Orders.own(op, 51));
+                    Check.dueAll("op " + op + " of " + a + " and " + v, b.registers(), due[op - 1], 0, 0, 0, 0);
+                }
+                if (v == (short) v) {
+                    for (int op : new int[] {1, 3, 4, 5, 6, 7, 8}) {
+                        b.does(3, Orders.own(Orders.LOAD, 50), Orders.immediate(op, v));
+                        Check.due("op " + op + " of " + a + " and " + v + ", mode 3", b.is(Bench.A), due[op - 1]);
+                    }
+                }
+            }
+        }
+        Bench b = new Bench().brackets(0, 5, 7, 0);
+        int s = b.other(7, 6, 0, 7, 7, 0);
+        b.x.define(s, 1, 0);
+        b.x.link(0, 0, 7, 1);
+        for (int op : new int[] {1, 3, 4, 5, 6, 7, 8, 9}) {
+            b.does(3, Orders.byLink(op, 0));
+            Check.dueAll("op " + op + " must read it", b.fault(), 3, 3, 9, 0);
+        }
     }
 
     // "9 COMPARE: the CONDITION is -1, 0, 1 as A is below it, alike, above."

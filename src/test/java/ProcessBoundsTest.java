@@ -6,6 +6,7 @@ public final class ProcessBoundsTest {
     private static final int NONE = RingWarden.NONE;
     private static final int MIN = Integer.MIN_VALUE;
     private static final int MAX = Integer.MAX_VALUE;
+    private static final int NO_ORDER = Orders.own(31, 0);
 
     public static void main(String[] args) {
         startPlace();
@@ -34,6 +35,7 @@ public final class ProcessBoundsTest {
         saidWhereThereIsNone();
         first200AreKept();
         saidByAnyProcess();
+        all512Calls();
         Check.finish();
     }
 
@@ -65,7 +67,7 @@ public final class ProcessBoundsTest {
         b.put(0, Orders.immediate(Orders.LOAD, 9), Orders.of(1, Orders.immediate(Orders.LOAD_X, 11)),
             Orders.of(2, Orders.immediate(Orders.LOAD_X, 12)), Orders.of(3, Orders.immediate(Orders.LOAD_X, 13)),
             Orders.immediate(Orders.COMPARE, 1), Orders.of(5, Orders.own(Orders.POINT, 50)),
-            Orders.byLink(Orders.CALL, 0), Orders.byPointer(Orders.STORE, 0, 7), Orders.own(31, 0));
+            Orders.byLink(Orders.CALL, 0), Orders.byPointer(Orders.STORE, 0, 7), NO_ORDER);
         b.start(4);
         b.x.handler(0, 0, 90);
         b.run(10);
@@ -138,7 +140,7 @@ public final class ProcessBoundsTest {
         Check.due("no handler", b.is(Bench.STATUS), Bench.FAULTED);
         b.start(3);
         b.x.handler(0, 0, 60);
-        b.put(0, Orders.own(31, 0)).run(1);
+        b.put(0, NO_ORDER).run(1);
         Check.due("with a handler again", b.is(Bench.STATUS), Bench.RUNNING);
     }
 
@@ -156,7 +158,7 @@ public final class ProcessBoundsTest {
     private static Bench inState(int state) {
         Bench b = new Bench();
         int first = state == Bench.RUNNING ? Orders.own(Orders.GO, 0)
-            : state == Bench.HALTED ? Orders.own(Orders.HALT, 0) : Orders.own(31, 0);
+            : state == Bench.HALTED ? Orders.own(Orders.HALT, 0) : NO_ORDER;
         b.put(0, first).start(3);
         if (state == Bench.DEAD) {
             b.x.handler(0, 0, 65535);
@@ -219,7 +221,7 @@ public final class ProcessBoundsTest {
         Bench b = new Bench();
         int s = b.other(7, 7, 0, 7, 7, 0);
         b.x.word(s, 4, Orders.own(Orders.RESUME, 0));
-        b.put(0, Orders.own(31, 0)).put(60, Orders.own(Orders.RESUME, 0)).start(3);
+        b.put(0, NO_ORDER).put(60, Orders.own(Orders.RESUME, 0)).start(3);
         b.x.handler(0, 0, 60);
         Check.dueAll("the first", b.run(1).place(), 0, 8, 60);
         b.x.handler(0, s, 4);
@@ -234,7 +236,7 @@ public final class ProcessBoundsTest {
     private static void handlerRefused() {
         Bench b = new Bench();
         int s = b.other(7, 7, 0, 7, 7, 0);
-        b.put(0, Orders.own(31, 0)).start(3);
+        b.put(0, NO_ORDER).start(3);
         for (int p : new int[] {MIN, -1, 1, 2, 3, 4, MAX}) {
             Check.due("process " + p, b.x.handler(p, s, 0), NONE);
         }
@@ -282,15 +284,15 @@ public final class ProcessBoundsTest {
 
     // Promise 10: "how many were done, faulting ones too"
     private static void runCountsFaultingSteps() {
-        Bench b = new Bench().put(0, Orders.immediate(Orders.LOAD, 1), Orders.own(31, 0)).start(3);
+        Bench b = new Bench().put(0, Orders.immediate(Orders.LOAD, 1), NO_ORDER).start(3);
         Check.due("the faulting one", b.x.run(0, 500), 2);
         Check.due("steps", b.is(Bench.STEPS), 2);
-        b = new Bench().put(0, Orders.own(31, 0)).put(60, Orders.own(Orders.RESUME, 0)).start(3);
+        b = new Bench().put(0, NO_ORDER).put(60, Orders.own(Orders.RESUME, 0)).start(3);
         b.x.handler(0, 0, 60);
         Check.due("faults and resumes", b.x.run(0, 500), 500);
         Check.due("steps", b.is(Bench.STEPS), 500);
         Check.due("faults", b.is(Bench.FAULTS), 250);
-        b.put(60, Orders.own(31, 0));
+        b.put(60, NO_ORDER);
         Check.due("the one that ends it", b.x.run(0, 500), 2);
         Check.due("DEAD", b.is(Bench.STATUS), Bench.DEAD);
         Check.due("steps", b.is(Bench.STEPS), 502);
@@ -509,5 +511,31 @@ public final class ProcessBoundsTest {
         for (int i = 0; i < 8; i++) {
             Check.due("said " + i, x.said(i), -10 * (3 - i % 4) + i / 4);
         }
+    }
+
+    // "An object is used for at most 512 calls after it has been made": all of them hold
+    private static void all512Calls() {
+        Bench b = new Bench();
+        b.put(0, Orders.immediate(Orders.ADD, 1), Orders.own(Orders.SAY, 0), Orders.own(Orders.CALL, 3), NO_ORDER);
+        b.put(60, Orders.own(Orders.GO, 61), Orders.of(1, Orders.immediate(Orders.LOAD_X, 1)),
+            Orders.own(Orders.RESUME, 0));
+        b.put(4, Orders.own(Orders.RETURN, 50)).put(50, Orders.pointerWord(0, 8, 0)).start(0);
+        b.x.handler(0, 0, 60);
+        int runs = 0;
+        while (b.x.callsLeft() > 12) {
+            Check.due("500 steps", b.x.run(0, 500), 500);
+            runs++;
+        }
+        int steps = 500 * runs;
+        Check.due("steps", b.is(Bench.STEPS), steps);
+        Check.due("A", b.is(Bench.A), (steps + 7) / 8);
+        Check.due("sayings", b.x.sayings(), (steps + 6) / 8);
+        Check.due("calls", b.is(Bench.CALLS), (steps + 5) / 8);
+        Check.due("faults", b.is(Bench.FAULTS), (steps + 4) / 8);
+        Check.due("returns", b.is(Bench.RETURNS), steps / 8);
+        Check.due("knows", b.is(Bench.KNOWS), 9);
+        Check.due("the last saying kept", b.x.said(199), 200);
+        Check.due("RUNNING", b.is(Bench.STATUS), Bench.RUNNING);
+        Check.due("calls left", b.x.callsLeft() >= 0, true);
     }
 }

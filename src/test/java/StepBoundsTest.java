@@ -568,13 +568,23 @@ public final class StepBoundsTest {
 
     // "Else fault 12.": what failed is not linked, so it is tried anew
     private static void refusedLinkIsTriedAgain() {
-        Bench b = linked(0);
-        b.put(0, Orders.byLink(Orders.LOAD, 2)).put(60, Orders.own(Orders.RESUME, 0)).start(3);
+        Bench b = new Bench();
+        b.put(0, Orders.of(1, Orders.byLink(Orders.WORD_X, 2))).put(60, Orders.own(Orders.RESUME, 0)).start(3);
         b.x.handler(0, 0, 60);
-        b.run(2);
-        Check.dueAll("no flag", b.fault(), 12, 3, 8, 2);
-        b.x.flags(1, 0, 1);
-        Check.due("with a flag", b.run(1).is(Bench.A), 1004);
+        Check.dueAll("no link", b.run(2).fault(), 12, 3, 8, 2);
+        b.x.link(0, 2, 7, 1);
+        Check.due("no segment", b.run(2).is(Bench.FAULTS), 2);
+        int s = b.other(7, 0, 0, 7, 7, 0);
+        b.x.define(s, 1, 4);
+        Check.due("no flag", b.run(2).is(Bench.FAULTS), 3);
+        b.x.flags(s, 0, 2);
+        b.x.link(0, 2, 7, 5);
+        Check.due("no definition", b.run(2).is(Bench.FAULTS), 4);
+        Check.due("not known so far", b.is(Bench.KNOWS), 9);
+        b.x.define(s, 5, 6);
+        Check.due("linked", b.run(1).is(Bench.FAULTS), 4);
+        Check.due("its word", b.is(Bench.X1), 6);
+        Check.due("known", b.is(Bench.KNOWS), 10);
     }
 
     // "a LINK of a segment": link 2 of one segment is not link 2 of another
