@@ -186,9 +186,13 @@ public final class ProcessBoundsTest {
         }
         Check.dueAll("doing nothing", b.everything(), before);
         Check.due("the stack stays", b.x.peek(0, 4, 7), 9);
-        Check.due("none is there by it", b.x.start(3, 0, 65536, 0), false);
-        Check.due("none is there by it, state", b.x.state(3, 0), 0);
-        Check.due("none is there by it, stack", b.x.known(3, 0), NONE);
+        int[][] wrong = {{-1, 0, 0}, {2, 0, 0}, {0, -1, 0}, {0, 65536, 0}, {0, 0, -1}, {0, 0, 8}};
+        for (int[] w : wrong) {
+            Check.due("none is there by it", b.x.start(3, w[0], w[1], w[2]), false);
+            Check.due("none is there by it, state", b.x.state(3, 0), 0);
+            Check.due("none is there by it, stack", b.x.known(3, 0), NONE);
+            Check.due("none is there by it, run", b.x.run(3, 1), NONE);
+        }
         Check.due("process 3", b.x.start(3, 0, 65535, 7), true);
     }
 

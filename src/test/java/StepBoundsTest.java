@@ -403,6 +403,17 @@ public final class StepBoundsTest {
                 Check.dueAll(length + " are not read, the pointer stays", b.pointer(5), 3, 0, 0);
             }
         }
+        int[][] ninths = {{0, 4095, 65535}, {0, 8, 100}, {7, 0, 0}};
+        for (int[] ninth : ninths) {
+            Bench b = new Bench();
+            for (int k = 50; k < 57; k++) {
+                b.put(k, Orders.again(Orders.pointerWord(0, 8, k + 1)));
+            }
+            b.put(57, Orders.again(Orders.pointerWord(ninth[0], ninth[1], ninth[2])));
+            b.does(3, Orders.indirect(Orders.own(Orders.LOAD, 50)));
+            int ring = Math.max(3, ninth[0]);
+            Check.dueAll("11, though it could not be read", b.fault(), 11, ring, ninth[1], ninth[2]);
+        }
     }
 
     // "its number must be KNOWN (1), its word one of the segment's (2), e MAY do it (3 read, 4 write, 5 execute),
