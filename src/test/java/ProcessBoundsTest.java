@@ -305,7 +305,7 @@ public final class ProcessBoundsTest {
 
     // Promise 10: "NONE, doing nothing: no such process, it is not there, another n."
     private static void runRefused() {
-        Bench b = new Bench().put(0, Orders.immediate(Orders.ADD, 1), Orders.own(Orders.GO, 0)).start(3);
+        Bench b = new Bench().put(0, Orders.immediate(Orders.ADD, 1), Orders.own(Orders.HALT, 0)).start(3);
         int[] before = b.everything();
         for (int n : new int[] {MIN, -500, -1, 501, 502, MAX}) {
             Check.due(n + " steps", b.x.run(0, n), NONE);
