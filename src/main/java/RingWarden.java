@@ -367,7 +367,8 @@ public final class RingWarden {
         private int count;
 
         void add(int v) {
-            if (count < KEPT_SAYINGS) {
+            // An object that is used far beyond its calls wraps the count below 0.
+            if (isBelow(count, KEPT_SAYINGS)) {
                 kept[count] = v;
             }
             count++;
@@ -709,7 +710,8 @@ public final class RingWarden {
             Place place = p.now.place;
             Segment from = p.segmentAt(place.number);
             int k = order.offset;
-            if (from == null || !from.names.hasLink(k)) {
+            // A stack has no links, and with its number no slot either.
+            if (from == null || !isBelow(from.number, MAX_SEGMENTS) || !from.names.hasLink(k)) {
                 return false;
             }
             int slot = from.number * LINKS + k;
