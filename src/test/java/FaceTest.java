@@ -8,7 +8,7 @@ import java.nio.file.Path;
 import java.util.Set;
 import java.util.TreeSet;
 
-/** The public face of the document, all of it and nothing more; and words that LANGUAGE.md leaves out. */
+/** The public face of the document, all of it and nothing more; and rules of LANGUAGE.md that can be counted. */
 public final class FaceTest {
     private static final Set<String> FACE = Set.of(
         "int segment(int,int)", "boolean brackets(int,int,int,int,int)", "boolean flags(int,int,int)",
@@ -21,6 +21,7 @@ public final class FaceTest {
 
     public static void main(String[] args) throws IOException {
         members();
+        classes();
         source();
         Check.finish();
     }
@@ -46,6 +47,40 @@ public final class FaceTest {
         }
     }
 
+    /** LANGUAGE.md, rules 1, 5 and 11. */
+    private static void classes() {
+        Class<?>[] inside = RingWarden.class.getDeclaredClasses();
+        Check.due("classes in the file, at most 12: " + inside.length, inside.length + 1 <= 12, true);
+        checkClass(RingWarden.class);
+        for (Class<?> one : inside) {
+            checkClass(one);
+        }
+    }
+
+    private static void checkClass(Class<?> one) {
+        int fields = 0;
+        for (Field field : one.getDeclaredFields()) {
+            boolean shared = Modifier.isStatic(field.getModifiers());
+            fields += shared ? 0 : 1;
+            Check.due("static but not final: " + field, shared && !Modifier.isFinal(field.getModifiers()), false);
+        }
+        Check.due("fields of " + one.getName() + ", at most 20: " + fields, fields <= 20, true);
+        for (Method method : one.getDeclaredMethods()) {
+            Check.due("parameters of " + method, method.getParameterCount() <= 7, true);
+            boolean hidden = Modifier.isPrivate(method.getModifiers());
+            Check.due("private, with a public one's name: " + method, hidden && bearsPublicName(method), false);
+        }
+    }
+
+    private static boolean bearsPublicName(Method method) {
+        for (String signature : FACE) {
+            if (signature.contains(" " + method.getName() + "(")) {
+                return true;
+            }
+        }
+        return false;
+    }
+
     private static String signature(Method method) {
         StringBuilder text = new StringBuilder(method.getReturnType() + " " + method.getName() + "(");
         for (int i = 0; i < method.getParameterCount(); i++) {
@@ -63,6 +98,8 @@ public final class FaceTest {
             Check.due("'" + word + "' in the source", code.matches(pattern), false);
         }
         for (String line : code.split("\n")) {
+            boolean allowed = !line.startsWith("import ") || line.equals("import java.util.Arrays;");
+            Check.due("an import that the class needs: " + line, allowed, true);
             boolean arm = line.strip().startsWith("case ") || line.strip().startsWith("default ");
             Check.due("a lambda in the source: " + line.strip(), line.contains("->") && !arm, false);
         }
